@@ -670,7 +670,7 @@ public final class AsleepInside {
             return refuse(NOT_SO);
         }
         keepAct();
-        night.goDown(told, s, head);
+        night.comeTo(told, s, night.floors[s] + 1, head);
         night.takeDueSteps(told);
         return allow(night.floors[s]);
     }
@@ -683,7 +683,7 @@ public final class AsleepInside {
             return refuse(NOT_SO);
         }
         keepAct();
-        night.goUp(told, s);
+        night.comeTo(told, s, night.floors[s] - 1, night.heads[s]);
         night.takeDueSteps(told);
         return allow(night.floors[s]);
     }
@@ -904,17 +904,14 @@ public final class AsleepInside {
         }
 
         void putAt(int row, int column, int value) {
-            if (holds(row, column)) {
+            if (row >= 0 && row < count && column >= 0 && column < columns) {
                 cells[row * columns + column] = value;
             }
         }
 
         int at(int row, int column) {
-            return holds(row, column) ? cells[row * columns + column] : 0;
-        }
-
-        private boolean holds(int row, int column) {
-            return row >= 0 && row < count && column >= 0 && column < columns;
+            boolean there = row >= 0 && row < count && column >= 0 && column < columns;
+            return there ? cells[row * columns + column] : 0;
         }
     }
 
@@ -989,12 +986,16 @@ public final class AsleepInside {
 
         /** By how much a lower FLOOR is quicker; whole, as its QUICK is that of the upper one times rates. */
         int ratio(int upper, int lower) {
-            int divisor = quickOf(upper);
-            return divisor == 0 ? 0 : quickOf(lower) / divisor;
+            boolean there = upper >= 0 && upper <= floors && lower >= 0 && lower <= floors;
+            return there && quicks[upper] > 0 ? quicks[lower] / quicks[upper] : 1;
         }
 
         long morningTick() {
             return (long) morning * bottom();
+        }
+
+        long knockTick(int k) {
+            return (long) knocks.at(k, KNOCK_AT) * bottom();
         }
 
         long feltOn(int strong, int from, int to) {
@@ -1023,7 +1024,7 @@ public final class AsleepInside {
             int kind = sleepers.at(s, S_KIND);
             int deaf = sleepers.at(s, S_DEAF) * (kind == HEAVY ? 2 : 1);
             boolean tooFond = kind == FOND && floor >= floors;
-            if (tooFond || feltOn(strong, knocked, floor) < deaf) {
+            if (tooFond || strong * ratio(knocked, floor) < deaf) {
                 return floor;
             }
             return Math.max(knocked, floor - (kind == LIGHT ? 2 : 1));
@@ -1117,16 +1118,12 @@ public final class AsleepInside {
                 next = Math.min(next, dueTick(dream, s));
             }
             for (int k = 0; k < dream.knocks.count; k++) {
-                long tick = knockTick(dream, k);
+                long tick = dream.knockTick(k);
                 if (tick > now) {
                     next = Math.min(next, tick);
                 }
             }
             return next;
-        }
-
-        private static long knockTick(Dream dream, int k) {
-            return (long) dream.knocks.at(k, KNOCK_AT) * dream.bottom();
         }
 
         private long dueTick(Dream dream, int s) {
@@ -1137,7 +1134,7 @@ public final class AsleepInside {
         private void hearToldKnocks(Dream dream) {
             Rows knocks = dream.knocks;
             for (int k = 0; k < knocks.count; k++) {
-                if (knockTick(dream, k) == now) {
+                if (dream.knockTick(k) == now) {
                     hearKnock(dream, knocks.at(k, KNOCK_HEAD), knocks.at(k, KNOCK_FLOOR), knocks.at(k, KNOCK_STRONG));
                 }
             }
@@ -1149,7 +1146,7 @@ public final class AsleepInside {
             for (int s = 0; s < dream.sleepers.count; s++) {
                 int floor = heads[s] == head ? dream.floorBehind(s, floors[s], knocked, strong) : floors[s];
                 if (floor != floors[s]) {
-                    comeTo(dream, s, floor);
+                    comeTo(dream, s, floor, head);
                     roused[s]++;
                     bits |= 1 << s;
                 }
@@ -1168,29 +1165,18 @@ public final class AsleepInside {
         private void takeStep(Dream dream, int s) {
             int head = dream.steps.at(dream.stepOf(s, done[s]), STEP_HEAD);
             done[s]++;
-            if (head == UPWARDS) {
-                goUp(dream, s);
-            } else {
-                goDown(dream, s, head);
-            }
+            comeTo(dream, s, head == UPWARDS ? floors[s] - 1 : floors[s] + 1, head);
         }
 
-        void goUp(Dream dream, int s) {
-            comeTo(dream, s, Math.max(floors[s] - 1, 0));
-        }
-
-        void goDown(Dream dream, int s, int head) {
+        /** He comes to a FLOOR, or stays where there is none such; the HEAD matters only if he has been awake. */
+        void comeTo(Dream dream, int s, int floor, int head) {
+            spent[s] += (now - came[s]) * dream.quickOf(floors[s]);
+            came[s] = now;
             if (floors[s] == 0) {
                 heads[s] = head;
             }
-            comeTo(dream, s, Math.min(floors[s] + 1, dream.floors));
-        }
-
-        private void comeTo(Dream dream, int s, int floor) {
-            spent[s] = livedBy(dream, s);
-            came[s] = now;
-            floors[s] = floor;
-            if (floor == 0) {
+            floors[s] = Math.max(0, Math.min(floor, dream.floors));
+            if (floors[s] == 0) {
                 heads[s] = NOTHING;
             }
         }
@@ -1305,11 +1291,13 @@ public final class AsleepInside {
         long risk;
         long ticks;
         long own;
+        private long minutes;
 
         void make(Dream dream) {
             if (!ready) {
                 ready = true;
                 found = false;
+                minutes = allMinutes(dream);
                 choose(dream, 0, 0, 0, 0);
             }
         }
@@ -1323,17 +1311,17 @@ public final class AsleepInside {
                 weigh(dream, lowest, riskSoFar, ticksSoFar + dream.falling(0, lowest));
                 return;
             }
-            int minutes = dream.tasks.at(k, TASK_MINUTES);
+            int length = dream.tasks.at(k, TASK_MINUTES);
             int each = dream.tasks.at(k, TASK_RISK);
             for (int floor = dream.tasks.at(k, TASK_FLOOR); floor <= dream.floors; floor++) {
                 tried[k] = floor;
-                long spent = ticksSoFar + (long) minutes * dream.minuteOf(floor);
+                long spent = ticksSoFar + (long) length * dream.minuteOf(floor);
                 choose(dream, k + 1, Math.max(lowest, floor), riskSoFar + (long) each * floor, spent);
             }
         }
 
         private void weigh(Dream dream, int lowest, long triedRisk, long triedTicks) {
-            long triedOwn = (long) dream.fall * lowest + allMinutes(dream);
+            long triedOwn = (long) dream.fall * lowest + minutes;
             boolean better = !found || triedRisk < risk || (triedRisk == risk && triedOwn < own);
             if (triedTicks > dream.morningTick() || !better) {
                 return;
@@ -1378,6 +1366,8 @@ public final class AsleepInside {
 
         final int[] row = new int[SLEEPERS_ROOM * FLOORS_ROOM];
         private final int[] members = new int[SLEEPERS_ROOM];
+        /** For each member, FLOOR and strength: the FLOOR behind such a KNOCK. */
+        private final int[] floorsBehind = new int[SLEEPERS_ROOM * FLOORS_ROOM * (MOST_ROUSING + 1)];
         private final int[] queue = new int[STATES];
         private final int[] parents = new int[STATES];
         private final int[] strengths = new int[STATES];
@@ -1392,10 +1382,11 @@ public final class AsleepInside {
             search++;
             queued = 0;
             enqueue(gather(night, set), NONE, 0);
+            tryKnocks(dream);
             for (int at = 0; at < queued && at < STATES; at++) {
                 // Weak ones first, so that of like rows the first by numbers is met first.
                 for (int strong = 1; strong <= MOST_ROUSING; strong++) {
-                    int next = behindKnock(dream, queue[at], strong);
+                    int next = behindKnock(queue[at], strong);
                     if (next == ALL_AWAKE) {
                         return trace(at, strong);
                     }
@@ -1431,11 +1422,25 @@ public final class AsleepInside {
             queued++;
         }
 
-        private int behindKnock(Dream dream, int state, int strong) {
+        private void tryKnocks(Dream dream) {
+            for (int m = 0; m < size; m++) {
+                for (int floor = 1; floor <= FLOORS_ROOM; floor++) {
+                    for (int strong = 1; strong <= MOST_ROUSING; strong++) {
+                        floorsBehind[place(m, floor, strong)] = dream.floorBehind(members[m], floor, 0, strong);
+                    }
+                }
+            }
+        }
+
+        private static int place(int member, int floor, int strong) {
+            return (member * FLOORS_ROOM + floor - 1) * (MOST_ROUSING + 1) + strong;
+        }
+
+        private int behindKnock(int state, int strong) {
             int next = 0;
             int awake = 0;
-            for (int m = 0; m < size && m < SLEEPERS_ROOM; m++) {
-                int floor = dream.floorBehind(members[m], (state >> 2 * m & 3) + 1, 0, strong);
+            for (int m = 0; m < size; m++) {
+                int floor = floorsBehind[place(m, (state >> 2 * m & 3) + 1, strong)];
                 if (floor == 0) {
                     awake++;
                 } else {
@@ -1465,10 +1470,15 @@ public final class AsleepInside {
 
     /** RATES by which each did is so. */
     private static final class Fitting {
+        private static final int ANY = 0;
+        private static final int IMPOSSIBLE = -1;
+
         boolean ready;
         int rows;
         /** Of each FLOOR the rates in rows that fit, as bits. */
         private final int[] ratesSeen = new int[FLOORS_ROOM + 1];
+        /** Of each FLOOR the QUICK by which its dids are so. */
+        private final int[] needed = new int[FLOORS_ROOM + 1];
 
         void make(Dream dream) {
             if (ready) {
@@ -1477,8 +1487,22 @@ public final class AsleepInside {
             ready = true;
             for (int floor = 0; floor <= FLOORS_ROOM; floor++) {
                 ratesSeen[floor] = 0;
+                needed[floor] = ANY;
+            }
+            for (int i = 0; i < dream.dids.count; i++) {
+                need(dream.dids.at(i, DID_FLOOR), dream.dids.at(i, DID_DONE), dream.dids.at(i, DID_AWAKE));
             }
             rows = countFrom(dream, 1, 1);
+        }
+
+        private void need(int floor, int amount, int minutes) {
+            if (floor < 1 || floor > FLOORS_ROOM) {
+                return;
+            }
+            int quick = (int) quotient(amount, minutes);
+            boolean whole = quick * minutes == amount;
+            boolean same = needed[floor] == ANY || needed[floor] == quick;
+            needed[floor] = whole && same ? quick : IMPOSSIBLE;
         }
 
         /** How many rows fit from a FLOOR on, below one with that QUICK. */
@@ -1489,24 +1513,14 @@ public final class AsleepInside {
             int sum = 0;
             for (int rate = LEAST_RATE; rate <= MOST_RATE; rate++) {
                 int quick = quickAbove * rate;
-                int fitting = fitsDids(dream, floor, quick) ? countFrom(dream, floor + 1, quick) : 0;
-                if (fitting > 0) {
+                boolean fits = needed[floor] == ANY || needed[floor] == quick;
+                int below = fits ? countFrom(dream, floor + 1, quick) : 0;
+                if (below > 0) {
                     ratesSeen[floor] |= 1 << rate;
-                    sum += fitting;
+                    sum += below;
                 }
             }
             return sum;
-        }
-
-        private static boolean fitsDids(Dream dream, int floor, int quick) {
-            Rows dids = dream.dids;
-            for (int i = 0; i < dids.count; i++) {
-                boolean here = dids.at(i, DID_FLOOR) == floor;
-                if (here && dids.at(i, DID_AWAKE) * quick != dids.at(i, DID_DONE)) {
-                    return false;
-                }
-            }
-            return true;
         }
 
         /** NOTHING if several rates fit, or none. */
@@ -1584,43 +1598,38 @@ public final class AsleepInside {
         }
 
         private boolean readLine() {
-            boolean told = dream.floors > 0;
-            if (spells("dream")) {
-                return told ? fail(TWICE) : readDream();
-            }
             if (!isLineWord()) {
                 return fail(FORM);
             }
-            if (!told) {
+            if (spells("dream")) {
+                return readDream();
+            }
+            if (dream.floors == 0) {
                 return fail(LACKS);
-            }
-            if (spells("pays")) {
-                return dream.paid ? fail(TWICE) : readPays();
-            }
-            if (spells("thinks")) {
-                return readThinks();
             }
             if (spells("head")) {
                 return readHead();
             }
-            return readRow();
-        }
-
-        private boolean readRow() {
             if (spells("sleeper")) {
                 return addRow(dream.sleepers) && readSleeper();
             }
             if (spells("down")) {
-                return addRow(dream.steps) && readDown();
+                return addRow(dream.steps) && readDown() && readAfter();
             }
             if (spells("up")) {
-                return addRow(dream.steps) && readUp();
+                return addRow(dream.steps) && readUp() && readAfter();
             }
             if (spells("knock")) {
                 return addRow(dream.knocks) && readKnock();
             }
             if (spells("task")) {
                 return addRow(dream.tasks) && readTask();
+            }
+            if (spells("pays")) {
+                return readPays();
+            }
+            if (spells("thinks")) {
+                return readThinks();
             }
             if (spells("felt")) {
                 return addRow(dream.signs) && readFelt();
@@ -1648,6 +1657,9 @@ public final class AsleepInside {
         }
 
         private boolean readDream() {
+            if (dream.floors > 0) {
+                return fail(TWICE);
+            }
             next();
             if (!word("rates") || !readRates() || !word("fall") || !isWhole(0, 60)) {
                 return false;
@@ -1681,6 +1693,9 @@ public final class AsleepInside {
         }
 
         private boolean readPays() {
+            if (dream.paid) {
+                return fail(TWICE);
+            }
             dream.paid = true;
             next();
             for (int floor = 1; floor <= FLOORS_ROOM + 1; floor++) {
@@ -1732,9 +1747,9 @@ public final class AsleepInside {
             Rows rows = dream.sleepers;
             rows.put(S_THINKS, NOTHING);
             return newName(SLEEPER, rows.count - 1) && readKind(rows)
-                && word("deaf") && whole(rows, S_DEAF, 1, 9999)
-                && word("dread") && whole(rows, S_DREAD, 0, 999)
-                && word("chance") && whole(rows, S_CHANCE, 0, 100);
+                && word("deaf") && isWhole(1, 9999) && take(rows, S_DEAF)
+                && word("dread") && isWhole(0, 999) && take(rows, S_DREAD)
+                && word("chance") && isWhole(0, 100) && take(rows, S_CHANCE);
         }
 
         private boolean readKind(Rows rows) {
@@ -1754,16 +1769,17 @@ public final class AsleepInside {
         }
 
         private boolean readDown() {
-            return toldName(SLEEPER, dream.steps, STEP_WHO) && toldName(HEAD, dream.steps, STEP_HEAD) && readAfter();
+            Rows rows = dream.steps;
+            return isTold(SLEEPER) && take(rows, STEP_WHO) && isTold(HEAD) && take(rows, STEP_HEAD);
         }
 
         private boolean readUp() {
             dream.steps.put(STEP_HEAD, UPWARDS);
-            return toldName(SLEEPER, dream.steps, STEP_WHO) && readAfter();
+            return isTold(SLEEPER) && take(dream.steps, STEP_WHO);
         }
 
         private boolean readAfter() {
-            if (!word("after") || !whole(dream.steps, STEP_AFTER, 0, 999)) {
+            if (!word("after") || !isWhole(0, 999) || !take(dream.steps, STEP_AFTER)) {
                 return false;
             }
             dream.orderStep();
@@ -1772,37 +1788,37 @@ public final class AsleepInside {
 
         private boolean readKnock() {
             Rows rows = dream.knocks;
-            return toldName(HEAD, rows, KNOCK_HEAD)
-                && word("floor") && whole(rows, KNOCK_FLOOR, 0, dream.floors - 1)
-                && word("at") && whole(rows, KNOCK_AT, 0, dream.morning)
-                && word("strong") && whole(rows, KNOCK_STRONG, 1, MOST_STRONG);
+            return isTold(HEAD) && take(rows, KNOCK_HEAD)
+                && word("floor") && isWhole(0, dream.floors - 1) && take(rows, KNOCK_FLOOR)
+                && word("at") && isWhole(0, dream.morning) && take(rows, KNOCK_AT)
+                && word("strong") && isWhole(1, MOST_STRONG) && take(rows, KNOCK_STRONG);
         }
 
         private boolean readTask() {
             Rows rows = dream.tasks;
             return newName(TASK, rows.count - 1)
-                && word("floor") && whole(rows, TASK_FLOOR, 0, dream.floors)
-                && word("minutes") && whole(rows, TASK_MINUTES, 1, 999)
-                && word("risk") && whole(rows, TASK_RISK, 0, 99);
+                && word("floor") && isWhole(0, dream.floors) && take(rows, TASK_FLOOR)
+                && word("minutes") && isWhole(1, 999) && take(rows, TASK_MINUTES)
+                && word("risk") && isWhole(0, 99) && take(rows, TASK_RISK);
         }
 
         private boolean readFelt() {
             Rows rows = dream.signs;
             rows.put(SIGN_CAME, 0);
-            return whole(rows, SIGN_SENT, 1, MOST_STRONG) && whole(rows, SIGN_GOT, 1, 9999);
+            return isWhole(1, MOST_STRONG) && take(rows, SIGN_SENT) && isWhole(1, 9999) && take(rows, SIGN_GOT);
         }
 
         private boolean readCame() {
             Rows rows = dream.signs;
             rows.put(SIGN_CAME, 1);
-            return whole(rows, SIGN_SENT, 1, MOST_WORDS) && whole(rows, SIGN_GOT, 0, 9999);
+            return isWhole(1, MOST_WORDS) && take(rows, SIGN_SENT) && isWhole(0, 9999) && take(rows, SIGN_GOT);
         }
 
         private boolean readDid() {
             Rows rows = dream.dids;
-            return whole(rows, DID_DONE, 1, 9999)
-                && word("floor") && whole(rows, DID_FLOOR, 1, dream.floors)
-                && word("awake") && whole(rows, DID_AWAKE, 1, 999);
+            return isWhole(1, 9999) && take(rows, DID_DONE)
+                && word("floor") && isWhole(1, dream.floors) && take(rows, DID_FLOOR)
+                && word("awake") && isWhole(1, 999) && take(rows, DID_AWAKE);
         }
 
         // ---- what may stand in a line; what is read is left behind
@@ -1815,10 +1831,8 @@ public final class AsleepInside {
             return true;
         }
 
-        private boolean whole(Rows rows, int column, int least, int most) {
-            if (!isWhole(least, most)) {
-                return false;
-            }
+        /** The number of the whole, or of the told name, that is looked at goes into the latest row. */
+        private boolean take(Rows rows, int column) {
             rows.put(column, number);
             next();
             return true;
@@ -1837,15 +1851,6 @@ public final class AsleepInside {
                 numbers[nameCount] = which;
                 nameCount++;
             }
-            next();
-            return true;
-        }
-
-        private boolean toldName(int sort, Rows rows, int column) {
-            if (!isTold(sort)) {
-                return false;
-            }
-            rows.put(column, number);
             next();
             return true;
         }
@@ -1882,15 +1887,14 @@ public final class AsleepInside {
         }
 
         private boolean spells(String wanted) {
-            if (kind != WORD || wanted.length() != behind - place) {
+            if (kind != WORD) {
                 return false;
             }
+            long spelt = 0;
             for (int i = 0; i < wanted.length(); i++) {
-                if (byteAt(place + i) != wanted.charAt(i)) {
-                    return false;
-                }
+                spelt = spelt << 8 | wanted.charAt(i);
             }
-            return true;
+            return spelt == name;
         }
 
         private boolean fail(int why) {

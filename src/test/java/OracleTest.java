@@ -18,9 +18,9 @@ public final class OracleTest {
     private final List<PlainNight> acts = new ArrayList<>();
     private final List<PlainNight> images = new ArrayList<>();
 
-    private OracleTest(int seed) {
+    private OracleTest(int seed, boolean deep) {
         r = new Random(seed);
-        spec = Spec.chance(r);
+        spec = deep ? Spec.deepSleep(r) : Spec.chance(r);
         String text = spec.text();
         x = new AsleepInside();
         at = "seed " + seed + ": " + text + ": ";
@@ -34,11 +34,17 @@ public final class OracleTest {
         int seeds = args.length > 0 ? Integer.parseInt(args[0]) : 300;
         int told = 0;
         for (int seed = 1; seed <= seeds; seed++) {
-            OracleTest one = new OracleTest(seed);
+            OracleTest one = new OracleTest(seed, false);
             if (one.x.size(4) > 0) {
                 told++;
                 one.go();
             }
+        }
+        for (int seed = 1; seed <= 40; seed++) {
+            OracleTest one = new OracleTest(seed, true);
+            one.together();
+            one.act();
+            one.together();
         }
         CHECKS.due("few of the texts are too long", told > seeds / 2, true);
         CHECKS.end();

@@ -41,6 +41,24 @@ final class Spec {
         return spec;
     }
 
+    /** Five sleepers on the lowest of four FLOORS in one HEAD, so deaf that few KNOCKS wake them at once. */
+    static Spec deepSleep(Random r) {
+        Spec spec = new Spec();
+        spec.rates = new int[] {2, 2 + r.nextInt(2), 2, 2 + r.nextInt(2)};
+        spec.morning = 1;
+        spec.heads = 1;
+        spec.sleepers = 5;
+        spec.addSleepers(r);
+        for (int s = 0; s < 5; s++) {
+            spec.kind[s] = r.nextInt(4) == 0 ? r.nextInt(3) : 0;
+            spec.deaf[s] = spec.quick(1) * (3 + r.nextInt(7)) - r.nextInt(2);
+            for (int i = 0; i < 4; i++) {
+                spec.steps.add(new int[] {s, 0, 0});
+            }
+        }
+        return spec;
+    }
+
     int floors() {
         return rates.length;
     }
@@ -106,7 +124,7 @@ final class Spec {
         for (int i = 0; i < signCount; i++) {
             boolean came = r.nextBoolean();
             int sent = 1 + r.nextInt(came ? 30 : 99);
-            int got = came ? sent / quick(there) : sent * quick(there);
+            int got = came ? sent / quick(there) : Math.min(9999, sent * quick(there));
             signs.add(new int[] {came ? 1 : 0, sent, r.nextInt(12) == 0 ? 1 + r.nextInt(50) : got});
         }
         int didCount = r.nextInt(3) == 0 ? 0 : r.nextInt(5);
