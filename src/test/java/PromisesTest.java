@@ -589,6 +589,8 @@ public final class PromisesTest {
         granted("41 none", x, x.rate(1), -2);
         x = Checks.of(B + ";did 5 floor 1 awake 2");
         granted("40 none whole", x, x.rates(), 0);
+        x = Checks.of(B + ";did 5 floor 1 awake 5");
+        granted("40 none so slow", x, x.rates(), 0);
         String four = ";did 12 floor 1 awake 1;did 24 floor 2 awake 1;did 48 floor 3 awake 1;did 576 floor 4 awake 1";
         x = Checks.of(B + four);
         granted("40 one", x, x.rates(), 1);
