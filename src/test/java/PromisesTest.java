@@ -39,6 +39,7 @@ public final class PromisesTest {
         undoing();
         images();
         whatIsTold();
+        largest();
         CHECKS.end();
     }
 
@@ -794,5 +795,34 @@ public final class PromisesTest {
         due("53 calls without a number leave it", x.trouble(), 1);
         x.quick(0);
         due("53", x.trouble(), 0);
+    }
+
+    /** The largest numbers that can come. */
+    private static void largest() {
+        AsleepInside x = Checks.of("dream rates 12,12,12,12 fall 60 morning 600;head h"
+            + ";sleeper a plain deaf 9999 dread 999 chance 1;sleeper b plain deaf 9999 dread 0 chance 1"
+            + ";down a h after 0;down a h after 0;down a h after 0;down a h after 0;down b h after 999"
+            + ";task k floor 0 minutes 999 risk 99;task l floor 4 minutes 999 risk 99;pays 999,999,999,999");
+        due("6", x.quick(4), 20_736);
+        due("9", x.minutes(0, 4, 9999, false), 207_339_264);
+        due("22", x.felt(99, 0, 4), 2_052_864);
+        due("25", x.soonest(), 60L * (20_736 + 1728 + 144 + 12) + 2 * 999);
+        due("33", x.words(4, 0, 1_000_000, 2), 414_720);
+        due("34", x.meeting(0, 1, 4), 60L * (20_736 + 1728 + 144 + 12));
+        due("37", x.gains(1), 20_715_264);
+        due("37", x.gains(0), 20_715_264 - 15_984);
+        due("38", x.price(0, 1), -2);
+        due("39", x.enough(0, 1), 84);
+        x.pass(0, 999);
+        due("10 at one tick with its step", x.sleeper(1, 0), 1);
+        due("44", x.pass(0, 201), 1200);
+        due("8", x.ticks(), 24_883_200);
+        due("7", x.clock(4), 24_883_200);
+        due("10", x.sleeper(0, 3), 24_883_200);
+        due("11", x.lived(0, false), 24_883_200);
+        due("11", x.lived(0, true), 1);
+        due("11", x.lived(1, false), 999 + 12 * 201);
+        due("18", x.lonely(0, 600), 600);
+        due("14", x.floorIn(0, 600), 4);
     }
 }
