@@ -1,4 +1,5 @@
 import java.nio.charset.StandardCharsets;
+import java.util.NoSuchElementException;
 
 /** What the tests share: feeding texts, and counting answers that aren't due. */
 final class Checks {
@@ -47,6 +48,32 @@ final class Checks {
 
     void due(String what, boolean got, boolean want) {
         due(what, got ? 1 : 0, want ? 1 : 0);
+    }
+
+    void due(String what, String got, String want) {
+        due(what + ": " + got + " instead of " + want, got.equals(want), true);
+    }
+
+    /** A call that is refused: NONE, by that trouble, which is no FAULT with a place. */
+    void refused(String what, AsleepInside x, long got, int why) {
+        due(what, got, AsleepInside.NONE);
+        due(what + ": trouble", x.trouble(), why);
+        due(what + ": where", x.where(), AsleepInside.NONE);
+    }
+
+    void granted(String what, AsleepInside x, long got, long want) {
+        due(what, got, want);
+        due(what + ": trouble", x.trouble(), 0);
+    }
+
+    /** Whether led() throws what the document wants. */
+    static boolean throwsNoSuch(AsleepInside x, int i) {
+        try {
+            x.led(i);
+        } catch (NoSuchElementException e) {
+            return true;
+        }
+        return false;
     }
 
     /** Prints the sum, and ends the program with 1 if an answer was wrong. */

@@ -1,5 +1,3 @@
-import java.util.NoSuchElementException;
-
 /** Each promise by hand: ordinary inputs, the edges that the document names, and wrong inputs. */
 public final class PromisesTest {
     private static final Checks CHECKS = new Checks();
@@ -48,14 +46,11 @@ public final class PromisesTest {
     }
 
     private static void refused(String what, AsleepInside x, long got, int why) {
-        CHECKS.due(what, got, AsleepInside.NONE);
-        CHECKS.due(what + ": trouble", x.trouble(), why);
-        CHECKS.due(what + ": where", x.where(), AsleepInside.NONE);
+        CHECKS.refused(what, x, got, why);
     }
 
     private static void granted(String what, AsleepInside x, long got, long want) {
-        CHECKS.due(what, got, want);
-        CHECKS.due(what + ": trouble", x.trouble(), 0);
+        CHECKS.granted(what, x, got, want);
     }
 
     /** Promise 1, and what each call answers without a DREAM. */
@@ -115,16 +110,7 @@ public final class PromisesTest {
         refused("49", x, x.image(), 1);
         CHECKS.due("50", x.back(0), false);
         due("50 trouble", x.trouble(), 1);
-        CHECKS.due("51", throwsNoSuch(x, 0), true);
-    }
-
-    private static boolean throwsNoSuch(AsleepInside x, int i) {
-        try {
-            x.led(i);
-        } catch (NoSuchElementException e) {
-            return true;
-        }
-        return false;
+        CHECKS.due("51", Checks.throwsNoSuch(x, 0), true);
     }
 
     /** Promises 2 to 5. */
@@ -778,18 +764,18 @@ public final class PromisesTest {
         due("52", x.size(13), -1);
         due("52", x.size(-1), -1);
         due("51", x.led(0), 2);
-        CHECKS.due("51", throwsNoSuch(x, 1), true);
+        CHECKS.due("51", Checks.throwsNoSuch(x, 1), true);
         x.pass(0, 2);
         due("51", x.led(0), 0);
         due("51", x.led(1), 1);
         due("51", x.led(2), 2);
-        CHECKS.due("51", throwsNoSuch(x, 3), true);
-        CHECKS.due("51", throwsNoSuch(x, -1), true);
-        CHECKS.due("51", throwsNoSuch(x, Integer.MIN_VALUE), true);
+        CHECKS.due("51", Checks.throwsNoSuch(x, 3), true);
+        CHECKS.due("51", Checks.throwsNoSuch(x, -1), true);
+        CHECKS.due("51", Checks.throwsNoSuch(x, Integer.MIN_VALUE), true);
         x.quick(-1);
         x.size(99);
         x.feed(0, 0, 0, 0, 0);
-        throwsNoSuch(x, 9);
+        Checks.throwsNoSuch(x, 9);
         x.fault();
         x.where();
         due("53 calls without a number leave it", x.trouble(), 1);
