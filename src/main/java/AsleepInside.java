@@ -73,7 +73,8 @@ public final class AsleepInside {
     /** What stands in STEP_HEAD of a step up. */
     private static final int UPWARDS = -1;
 
-    private static final long NEVER = Long.MAX_VALUE;
+    /** Later than any tick that can come: those stay below 2 ** 32. */
+    private static final long NEVER = 1L << 60;
 
     private final byte[] tape = new byte[TAPE_ROOM];
     private final Reader reader = new Reader();

@@ -45,6 +45,10 @@ public final class AnswerBoundsTest {
         CHECKS.due(what, got, want);
     }
 
+    private static void due(String what, boolean got, boolean want) {
+        CHECKS.due(what, got, want);
+    }
+
     private static String sleeper(String name, String kind, int deaf) {
         return ";sleeper " + name + " " + kind + " deaf " + deaf + " dread 0 chance 0";
     }
@@ -173,10 +177,6 @@ public final class AnswerBoundsTest {
         x = Checks.of(b.toString().replace("minutes 9", "minutes 999"));
         due("the longest six", x.best(2), 12 + 6 * 999);
         due("the soonest of the longest six", x.soonest(), 90 + 6 * 999);
-    }
-
-    private static void due(String what, boolean got, boolean want) {
-        CHECKS.due(what, got, want);
     }
 
     /** "SOONEST: the least TIME of all ways". */
@@ -398,7 +398,7 @@ public final class AnswerBoundsTest {
     /** "PRICE of a FLOOR: the least pay there (0 .. 99,999) with which he TAKES it, all others as told"; "-2 none". */
     private static void pricesUpToTheMost() {
         String text = "dream rates 2,2,8,8 fall 0 morning 9;head g;sleeper a plain deaf 1 dread %d chance 0;pays 0,0,0,%d";
-        int[][] rows = {{30, 782, 99_871}, {30, 783, 99_999}, {30, 784, -2}, {0, 781, 99_968}, {0, 782, -2}, {0, 0, 1}, {1, 0, 1}, {2, 0, 2}, {999, 0, 500}};
+        int[][] rows = {{30, 782, 99_871}, {30, 783, 99_999}, {30, 784, -2}, {47, 784, -2}, {48, 784, 99_992}, {0, 781, 99_968}, {0, 782, -2}, {0, 0, 1}, {1, 0, 1}, {2, 0, 2}, {999, 0, 500}};
         for (int[] row : rows) {
             AsleepInside x = Checks.of(text.formatted(row[0], row[1]));
             CHECKS.granted("38 dread " + row[0] + " pay " + row[1], x, x.price(0, 1), row[2]);

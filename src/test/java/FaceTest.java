@@ -108,6 +108,10 @@ public final class FaceTest {
         while (imports.find()) {
             CHECKS.due("import " + imports.group(1), imports.group(1).equals("java.util.NoSuchElementException"), true);
         }
+        Matcher used = Pattern.compile("\\b(Math|Integer|Long|String|StringBuilder|Arrays|List|ArrayList)\\.(\\w+)").matcher(code);
+        while (used.find()) {
+            CHECKS.due("the library's " + used.group(), Set.of("Math.max", "Math.min", "Integer.bitCount").contains(used.group()), true);
+        }
         int begin = -1;
         String[] lines = code.split("\n");
         for (int i = 0; i < lines.length; i++) {

@@ -24,7 +24,9 @@ public final class NightBoundsTest {
         onlyLowerOnesInThatHead();
         knocksAheadOfSteps();
         knocksOneBehindTheOther();
+        knocksInTheirHeadOnTheirFloor();
         knocksAtZeroAndAtMorning();
+        twoMeet();
         upToSixHundredMinutes();
         wholeMinutesAlone();
         leftAtMorning();
@@ -369,6 +371,22 @@ public final class NightBoundsTest {
         due("the later one then", x.floorIn(0, 4), 0);
     }
 
+    /** "knock HEAD floor WHOLE": told ones come just there. */
+    private static void knocksInTheirHeadOnTheirFloor() {
+        String text = FOUR + sleeper("a", "plain", 8) + sleeper("b", "plain", 8) + ";down a g after 0".repeat(4) + ";down b h after 0".repeat(4);
+        String[] heads = {"g", "h"};
+        // On FLOOR 4 a KNOCK of 1 is felt as 16, 8, 4, 2, whence it comes from FLOOR 0, 1, 2, 3.
+        for (int head = 0; head < 2; head++) {
+            for (int on = 0; on < 4; on++) {
+                AsleepInside x = of(text + ";knock " + heads[head] + " floor " + on + " at 2 strong 1");
+                due("who is in that HEAD, on " + on, x.floorIn(head, 2), on < 2 ? 3 : 4);
+                due("who is in that HEAD, on " + on, x.woken(head, 2), on < 2 ? 1 : 0);
+                due("who is in the other", x.floorIn(1 - head, 2), 4);
+                due("who is in the other", x.woken(1 - head, 600), 0);
+            }
+        }
+    }
+
     /** "at WHOLE (an awake minute, 0 up to morning)". */
     private static void knocksAtZeroAndAtMorning() {
         AsleepInside x = of(TWO + sleeper("a", "plain", 1) + ";down a g after 0;knock g floor 0 at 0 strong 99;knock g floor 0 at 10 strong 1");
@@ -391,6 +409,26 @@ public final class NightBoundsTest {
         x.undo();
         x.undo();
         due("unless it is undone", x.woken(0, 600), 1);
+    }
+
+    // ---- who meets whom
+
+    /** "MEET: two on one FLOOR but 0 of one HEAD". */
+    private static void twoMeet() {
+        for (int one = 0; one <= 2; one++) {
+            for (int other = 0; other <= 2; other++) {
+                for (int head = 0; head < 2; head++) {
+                    AsleepInside x = of(TWO + sleeper("a", "plain", 1) + sleeper("b", "plain", 1) + ";down a g after 0".repeat(one)
+                        + (";down b " + (head == 0 ? "g" : "h") + " after 0").repeat(other));
+                    boolean met = one == other && one > 0 && head == 0;
+                    String what = one + ", " + other + " in HEAD " + head;
+                    CHECKS.granted("NOW " + what, x, x.meet(0, 1), met ? 1 : 0);
+                    CHECKS.granted("NOW " + what, x, x.meet(1, 0), met ? 1 : 0);
+                    CHECKS.granted("IN 0 " + what, x, x.meetsIn(1, 0, 0), met ? 0 : -2);
+                    CHECKS.granted("IN 600 " + what, x, x.meetsIn(0, 1, 600), met ? 0 : -2);
+                }
+            }
+        }
     }
 
     // ---- IN t
@@ -549,6 +587,11 @@ public final class NightBoundsTest {
         due("too weak", x.woken(1, 600), 0);
         x.pass(0, 28);
         due("all STEPS", x.sleeper(0, 2), 20);
+        x = of(ONE + sleeper("a", "plain", 1) + sleeper("b", "plain", 99) + knocks + ";knock g floor 0 at 8 strong 49"
+            + ";down a h after 9" + ";down a g after 2".repeat(18) + ";up a after 2");
+        x.lie(1, 1);
+        due("LONELY again behind all of them", x.lonely(1, 600), 8 + 573);
+        due("not ahead", x.lonely(1, 27), 8);
         x = of(ONE + sleeper("a", "plain", 1) + sleeper("b", "plain", 99) + knocks.toString().replaceAll("at (\\d)", "at 2$1")
             + ";knock g floor 0 at 28 strong 50" + ";up a after 1".repeat(20));
         x.lie(1, 0);

@@ -41,6 +41,7 @@ public final class RefusalTest {
         whereBehindAFault();
         eachTrouble();
         newDreamsForgetOldOnes();
+        newDreamsForgetOldNames();
         CHECKS.end();
     }
 
@@ -472,9 +473,15 @@ public final class RefusalTest {
     private static void newDreamsForgetOldOnes() {
         String other = "dream rates 3 fall 9 morning 90;head x;head y;head z;sleeper o fond deaf 99 dread 9 chance 9;down o z after 0"
             + ";up o after 2;knock z floor 0 at 2 strong 50;task m floor 0 minutes 80 risk 1;pays 3;thinks o 1;felt 2 6;did 9 floor 1 awake 3";
-        String[] texts = {LEAST, other};
+        String hopeless = LEAST + ";task k floor 0 minutes 999 risk 1;task l floor 1 minutes 1 risk 1";
+        String[] texts = {LEAST, other, hopeless};
         for (String text : texts) {
             String fresh = Snapshot.of(Checks.of(text));
+            AsleepInside asked = busy();
+            asked.dream(20);
+            Snapshot.of(asked);
+            tellAnew(asked, text);
+            CHECKS.due("behind one that was asked all", Snapshot.of(asked), fresh);
             AsleepInside once = busy();
             once.dream(20);
             tellAnew(once, text);
@@ -495,6 +502,17 @@ public final class RefusalTest {
             tellAnew(more, text);
             CHECKS.due("behind itself and a faulty one", Snapshot.of(more), fresh);
         }
+    }
+
+    /** NAMES of an earlier text aren't told in a later one, and can be told anew. */
+    private static void newDreamsForgetOldNames() {
+        AsleepInside x = Checks.of(LEAST.replace("head h", "head q").replace("sleeper s", "sleeper r"));
+        Checks.tell(x, LEAST + ";up r after 1");
+        CHECKS.due("2 of a sleeper told earlier", x.fault(), 2);
+        Checks.tell(x, LEAST + ";knock q floor 0 at 0 strong 1");
+        CHECKS.due("2 of a HEAD told earlier", x.fault(), 2);
+        CHECKS.due("told anew", Checks.tell(x, LEAST.replace("head h", "head r").replace("sleeper s", "sleeper q")), 1);
+        CHECKS.due("told anew", x.lie(0, 0), 1);
     }
 
     private static void tellAnew(AsleepInside x, String text) {

@@ -365,6 +365,7 @@ public final class TextBoundsTest {
 
     private static void roomForLines() {
         room(3, 3, DREAM + SLEEPER, i -> ";head " + letter(i));
+        sleepersAreCounted();
         room(4, 5, DREAM + HEAD, i -> ";sleeper " + letter(i) + " fond deaf 1 dread 0 chance 0");
         room(5, 20, PEOPLE, i -> ";down s h after " + i);
         room(5, 20, PEOPLE, i -> ";up s after " + i);
@@ -377,6 +378,15 @@ public final class TextBoundsTest {
         room(8, 6, PEOPLE, i -> i % 2 == 0 ? ";felt 1 1" : ";came 1 1");
         room(8, 6, PEOPLE, i -> i < 5 ? ";came 1 1" : ";felt 1 1");
         room(9, 6, PEOPLE, i -> ";did 2 floor 1 awake " + (i + 1));
+    }
+
+    /** "how many sleepers". */
+    private static void sleepersAreCounted() {
+        String text = DREAM + HEAD;
+        for (int count = 1; count <= 5; count++) {
+            text += ";sleeper " + letter(count) + " fond deaf 1 dread 0 chance 0";
+            CHECKS.due("3 how many sleepers", Checks.tell(new AsleepInside(), text), count);
+        }
     }
 
     private static char letter(int i) {
@@ -502,6 +512,9 @@ public final class TextBoundsTest {
         right(all.toString());
         wrong(all + ";up " + names.get(13), UNTOLD, all.length() + 4);
         right(all + ";up " + names.get(7) + " after 1;knock " + names.get(2) + " floor 0 at 0 strong 1");
+        int tasks = all.indexOf(";task");
+        String lastSleeper = DREAM + all.substring(tasks) + all.substring(DREAM.length(), tasks);
+        right(lastSleeper + ";up " + names.get(7) + " after 1");
     }
 
     /** "ahead of its use". */
