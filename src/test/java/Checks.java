@@ -1,8 +1,8 @@
 import java.nio.charset.StandardCharsets;
 import java.util.NoSuchElementException;
 
-/** What the tests share: feeding texts, and counting answers that aren't due. */
-final class Checks {
+/** What the tests share: feeding texts, and counting answers that aren't due; public for ReadmeTest's program. */
+public final class Checks {
     private int wrong;
     private int made;
 
@@ -36,7 +36,7 @@ final class Checks {
         return x;
     }
 
-    void due(String what, long got, long want) {
+    public void due(String what, long got, long want) {
         made++;
         if (got != want) {
             wrong++;
@@ -46,11 +46,11 @@ final class Checks {
         }
     }
 
-    void due(String what, boolean got, boolean want) {
+    public void due(String what, boolean got, boolean want) {
         due(what, got ? 1 : 0, want ? 1 : 0);
     }
 
-    void due(String what, String got, String want) {
+    public void due(String what, String got, String want) {
         due(what + ": " + got + " instead of " + want, got.equals(want), true);
     }
 
